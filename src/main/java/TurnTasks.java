@@ -263,16 +263,13 @@ public final class TurnTasks {
 
     private void wakeWaiting() {
         for (int i = 0; i < TASK_COUNT; i++) {
-            wakeIfThere(tasks[i]);
+            if (isThere(tasks[i])) {
+                tasks[i].state = State.READY;
+            }
         }
     }
 
-    private void wakeIfThere(Task task) {
-        if (isThere(task)) {
-            task.state = State.READY;
-        }
-    }
-
+    /** Whether the TASK waits, and for something that is there. */
     private boolean isThere(Task task) {
         switch (task.state) {
             case State.SENDS: return hasRoom(task.awaited);
@@ -348,8 +345,11 @@ public final class TurnTasks {
             case Op.WAIT: task.waitFor(State.WAITS, task.below(0), task.below(0)); break;
             default: return false;
         }
-        wakeIfThere(task);
-        return task.state != State.READY;
+        if (isThere(task)) {
+            task.state = State.READY;
+            return false;
+        }
+        return true;
     }
 
     // ---- FAULTS

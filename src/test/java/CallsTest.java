@@ -124,6 +124,33 @@ public final class CallsTest {
         Check.due("READY anew", t.state(0), 1);
         Check.due("int anew", t.stack(0, 0), 5);
         Check.due("the LINK to 0 is gone", t.about(2, 4), 2);
+        linksGo();
+    }
+
+    private static void linksGo() {
+        // TASKS 0 and 1 have LINKS to one another and are killed by 2; 0 is spawned anew, then 1
+        TurnTasks t = Check.machine(43, 0, 32, 0);
+        Check.load(t, 100, 32, 1, 40, 0, 20, 102);
+        t.spawn(0, 1);
+        t.spawn(0, 0);
+        t.spawn(100, 0);
+        t.run(20);
+        Check.due("LINKS of 0", t.about(0, 4), 2);
+        t.put(1, 0);
+        t.run(20);
+        Check.faultDue("TASK 1 by its LINK", t, 1, 8);
+        t.spawn(1, 5);
+        Check.due("no LINKS of the new 0", t.about(0, 4), 0);
+        Check.due("no LINK to the new 0", t.about(1, 4), 0);
+        // TASK 0 has a LINK to an OVER one, whose number is given anew
+        TurnTasks first = Check.machine(43, 0, 20, 1);
+        Check.load(first, 10, 30, 0);
+        first.spawn(0, 1);
+        first.spawn(10, 0);
+        first.run(2);
+        Check.due("LINK to an OVER one", first.about(0, 4), 2);
+        first.spawn(10, 0);
+        Check.due("the LINK of TASK 0 is gone", first.about(0, 4), 0);
     }
 
     private static void quanta() {

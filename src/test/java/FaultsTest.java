@@ -70,6 +70,11 @@ public final class FaultsTest {
                 faults(depth, 0, op, 0, 2);
             }
         }
+        for (int op = 0; op <= 45; op++) {
+            TurnTasks enough = before(NEEDS[op], 0, op, 0);
+            enough.step();
+            Check.due("OP " + op + " has ints enough", enough.about(0, 6) == -2 && op != 23 ? 1 : 0, 0);
+        }
         faults(3, 5, 23, 0, 2);
         faults(4, -1, 45, 0, 2);
         faults(4, 3, 45, 0, 2);
@@ -93,13 +98,15 @@ public final class FaultsTest {
             fine(23, 0, op, 0, 24);
             faults(24, 0, op, 0, 3);
         }
-        int[] stay = {0, 4, 11, 19, 26, 28, 33, 45};
+        int[] stay = {0, 4, 11, 19, 20, 22, 26, 28, 29, 33, 42, 45};
         for (int op : stay) {
             fine(24, 0, op, 0, 24);
         }
         tooManyOfChannels(32, 1);
         tooManyOfChannels(34, 2);
         tooManyOfChannels(35, 2);
+        returnsAndWaitsWithFullStack();
+        choicesWithFullStack();
         TurnTasks receives = before(24, 0, 32, 0);
         receives.step();
         Check.due("32 waits with a full STACK", receives.state(0), 3);
@@ -122,6 +129,42 @@ public final class FaultsTest {
         t.put(0, 5);
         faultsIn(t, 25 - come, 8, op, 3);
         Check.due("OP " + op + " takes nothing of the CHANNEL", t.held(0), 1);
+    }
+
+    private static void returnsAndWaitsWithFullStack() {
+        TurnTasks empty = before(0, 0, 22, 200);
+        Check.load(empty, 200, 23, 0);
+        empty.run(2);
+        Check.due("23 with an empty STACK", empty.about(0, 0), 101);
+        TurnTasks returns = before(24, 0, 22, 200);
+        Check.load(returns, 200, 23, 0);
+        returns.run(2);
+        Check.due("23 with a full STACK", returns.about(0, 0), 101);
+        Check.due("23 has no FAULT", returns.told(7), 0);
+        TurnTasks waits = before(24, 1, 41, 0);
+        Check.load(waits, 200, 30, 0);
+        waits.spawn(200, 7);
+        waits.run(9);
+        Check.due("41 with a full STACK", waits.stack(0, 23), 7);
+        Check.due("41 has 24 ints", waits.about(0, 1), 24);
+    }
+
+    private static void choicesWithFullStack() {
+        int[] fullOnes = {2, 3};
+        for (int channel : fullOnes) {
+            TurnTasks t = before(23, 8, 35, 2 + 8 * 3);
+            t.put(channel, 5);
+            faultsIn(t, 23, 8, 35, 3);
+            Check.due("35 takes nothing of CHANNEL " + channel, t.held(channel), 1);
+            TurnTasks fits = before(22, 8, 35, 2 + 8 * 3);
+            fits.put(channel, 5);
+            fits.step();
+            Check.due("35 fits, of CHANNEL " + channel, fits.about(0, 1), 24);
+        }
+        TurnTasks waits = before(23, 8, 35, 2 + 8 * 3);
+        waits.put(0, 5);
+        waits.step();
+        Check.due("35 waits all the same", waits.state(0), 4);
     }
 
     private static void tooManyReturns() {

@@ -177,6 +177,26 @@ public final class LinksTest {
         Check.due("its TRAP is used", t.about(2, 3), -1);
         Check.due("behind it all is well", t.state(3), 3);
         Check.due("FAULTS", t.told(7), 3);
+        othersStay();
+    }
+
+    private static void othersStay() {
+        // TASK 1 has a LINK to 0, which lives; 2 falls; 3 has a LINK to 4, whose TRAP takes a FAULT
+        TurnTasks t = machine(32, 0, 46, 0);
+        Check.load(t, 10, 42, 300, 46, 0);
+        t.spawn(200, 0);
+        t.spawn(100, 0);
+        t.spawn(0, 0);
+        t.spawn(100, 4);
+        t.spawn(10, 0);
+        t.run(40);
+        t.put(0, 1);
+        t.run(40);
+        Check.faultDue("TASK 2", t, 2, 1);
+        Check.recordDue("TASK 4 is trapped", t, 1);
+        Check.due("TASK 1 stays", t.state(1), 3);
+        Check.due("TASK 3 stays", t.state(3), 3);
+        Check.due("FAULTS of both", t.told(7), 2);
     }
 
     private static void orderOfFall() {
