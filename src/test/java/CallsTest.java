@@ -22,10 +22,8 @@ public final class CallsTest {
     }
 
     private static void newObject() {
+        newCode();
         TurnTasks t = new TurnTasks();
-        for (int i = -1; i <= 512; i++) {
-            Check.due("new: code " + i, t.code(i), 0);
-        }
         for (int i = -1; i <= 64; i++) {
             Check.due("new: memory " + i, t.memory(i), 0);
         }
@@ -35,15 +33,29 @@ public final class CallsTest {
             for (int what = 0; what < 7; what++) {
                 Check.due("new: about " + i + " " + what, t.about(i, what), dues[what]);
             }
+            Check.due("new: stack " + i, t.stack(i, 0), 0);
         }
         for (int i = 0; i < 6; i++) {
             Check.due("new: held " + i, t.held(i), 0);
+            Check.due("new: channel " + i, t.channel(i, 0), 0);
             Check.due("new: size " + i, t.size(i, 8), 4);
         }
         for (int what = 0; what < 8; what++) {
             Check.due("new: told " + what, t.told(what), 0);
         }
+        Check.due("new: record", t.record(0), 0);
+        Check.due("new: latest", t.latest(), 2);
         Check.due("new: quantum", t.quantum(8), 8);
+    }
+
+    /** By halves: an object is used for at most 512 calls. */
+    private static void newCode() {
+        for (int half = 0; half < 512; half += 256) {
+            TurnTasks t = new TurnTasks();
+            for (int i = half - 1; i <= half + 256; i++) {
+                Check.due("new: code " + i, t.code(i), 0);
+            }
+        }
     }
 
     private static void pokeAndCode() {

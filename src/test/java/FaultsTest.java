@@ -22,17 +22,7 @@ public final class FaultsTest {
 
     /** TASK 0 has so many ints, the uppermost is x; the next OP is at 100. */
     private static TurnTasks before(int depth, int x, int op, int arg) {
-        TurnTasks t = new TurnTasks();
-        int place = 0;
-        t.poke(place++, t.word(2, 0));
-        for (int i = 0; i < depth; i++) {
-            t.poke(place++, t.word(1, i == depth - 1 ? x : 1000 + i));
-        }
-        t.poke(place++, t.word(20, 100));
-        t.poke(100, t.word(op, arg));
-        t.spawn(0, 0);
-        t.run(place);
-        return t;
+        return Check.before(Check.manyInts(depth, x), op, arg);
     }
 
     private static void faults(int depth, int x, int op, int arg, int fault) {

@@ -17,27 +17,11 @@ public final class OpsTest {
     }
 
     private static int[] ints(int... all) {
-        return all;
-    }
-
-    /** A TASK 0 at place 100, with these ints, before the OP there is done. */
-    private static TurnTasks before(int[] stack, int op, int arg) {
-        TurnTasks t = new TurnTasks();
-        t.size(5, 8);
-        t.poke(0, t.word(2, 0));
-        for (int i = 0; i < stack.length; i++) {
-            t.put(5, stack[i]);
-            t.poke(1 + i, t.word(32, 5));
-        }
-        t.poke(1 + stack.length, t.word(20, 100));
-        t.poke(100, t.word(op, arg));
-        t.spawn(0, 0);
-        t.run(2 + stack.length);
-        return t;
+        return Check.ints(all);
     }
 
     private static TurnTasks leaves(int[] stack, int op, int arg, int... after) {
-        TurnTasks t = before(stack, op, arg);
+        TurnTasks t = Check.before(stack, op, arg);
         String what = "OP " + op + " ARG " + arg;
         Check.due(what + " step", t.step(), 0);
         Check.due(what + " state", t.state(0), 1);
@@ -165,7 +149,7 @@ public final class OpsTest {
         Check.due("28: place", t.about(1, 0), 40);
         Check.stackDue("28: its int", t, 1, 8);
         Check.due("28: spawned ever", t.told(6), 2);
-        TurnTasks full = before(ints(3, 8), 28, 40);
+        TurnTasks full = Check.before(ints(3, 8), 28, 40);
         for (int i = 1; i < 12; i++) {
             full.spawn(300, 0);
         }
@@ -184,7 +168,7 @@ public final class OpsTest {
         Check.stackDue("44, 32, 44", t, 0, 3, 1, 8, 0);
         TurnTasks sent = goesOn(ints(3, 8), 33, 2, 3, 1);
         Check.due("33 first", sent.channel(2, 0), 8);
-        TurnTasks full = before(ints(3, 8), 33, 2);
+        TurnTasks full = Check.before(ints(3, 8), 33, 2);
         full.size(2, 1);
         full.put(2, 5);
         full.step();
@@ -192,7 +176,7 @@ public final class OpsTest {
         Check.due("33, full: held", full.held(2), 1);
         Check.due("33, full: goes on", full.about(0, 0), 101);
         goesOn(ints(3), 34, 2, 3, 0);
-        TurnTasks got = before(ints(3), 34, 2);
+        TurnTasks got = Check.before(ints(3), 34, 2);
         got.put(2, 5);
         got.put(2, 6);
         got.step();
@@ -202,7 +186,7 @@ public final class OpsTest {
     }
 
     private static void choices() {
-        TurnTasks t = before(ints(3), 35, 1 + 8 * 4);
+        TurnTasks t = Check.before(ints(3), 35, 1 + 8 * 4);
         t.put(4, 44);
         t.put(1, 11);
         t.step();
@@ -212,7 +196,7 @@ public final class OpsTest {
         t.step();
         Check.stackDue("35 of d", t, 0, 3, 11, 0, 44, 1);
         Check.due("35 of d: held", t.held(4), 0);
-        TurnTasks edge = before(ints(), 35, 5 + 8 * 5);
+        TurnTasks edge = Check.before(ints(), 35, 5 + 8 * 5);
         edge.put(5, 9);
         edge.step();
         Check.stackDue("35 of 5 and 5", edge, 0, 9, 0);
@@ -221,7 +205,7 @@ public final class OpsTest {
     private static void ownOps() {
         TurnTasks t = goesOn(ints(3), 29, 0, 3);
         Check.due("29: LEFT", t.told(2), 0);
-        TurnTasks over = before(ints(3, -9), 30, 0);
+        TurnTasks over = Check.before(ints(3, -9), 30, 0);
         over.step();
         Check.due("30: OVER", over.state(0), 7);
         Check.due("30: CODE", over.about(0, 6), -9);

@@ -8,7 +8,7 @@ public final class RandomRunsTest {
     }
 
     public static void main(String[] args) {
-        for (int i = 0; i < 400; i++) {
+        for (int i = 0; i < 3000; i++) {
             TurnTasks a = new TurnTasks();
             TurnTasks b = new TurnTasks();
             long first = new RandomRunsTest(i).play(a, i);
@@ -43,10 +43,12 @@ public final class RandomRunsTest {
             t.poke(place, t.word(op, arg(op)));
         }
         long sum = 0;
-        for (int call = 0; call < 200; call++) {
+        // an object is used for at most 512 calls: with these, some runs have 500 and are looked at once, at their end
+        int calls = below(170);
+        for (int call = 0; call < calls; call++) {
             sum = sum * 31 + call(t);
-            consistent(t, run);
         }
+        consistent(t, run);
         return sum;
     }
 
