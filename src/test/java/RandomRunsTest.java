@@ -43,7 +43,7 @@ public final class RandomRunsTest {
             t.poke(place, t.word(op, arg(op)));
         }
         long sum = 0;
-        // an object is used for at most 512 calls: with these, some runs have 500 and are looked at once, at their end
+        // looked at once, at the end of a run of any length: an object is used for at most 512 calls
         int calls = below(170);
         for (int call = 0; call < calls; call++) {
             sum = sum * 31 + call(t);

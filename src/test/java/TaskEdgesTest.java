@@ -20,6 +20,7 @@ public final class TaskEdgesTest {
         waitersAreNotWoken();
         linksAreBits();
         linkToFaulted();
+        linkToFaultedGoesOn();
         faultsByLinks();
         Check.finish();
     }
@@ -342,6 +343,28 @@ public final class TaskEdgesTest {
             Check.due("no FAULT more", live.told(7), 1);
             Check.stackDue("x is taken", live, 7, 77, 50);
         }
+    }
+
+    /** "For each that is FAULTED, as they come": also for one that has FAULT 8 by OP 43. */
+    private static void linkToFaultedGoesOn() {
+        // TASK 1 is FAULTED; TASK 2 has a LINK to 0, TASK 3 to 2; then TASK 0 makes its LINK to 1
+        TurnTasks t = Check.machine(32, 1, 1, 1, 43, 0);
+        Check.load(t, 10, 46, 0);
+        Check.load(t, 20, 43, 0, 32, 0);
+        t.spawn(0, 5);
+        t.spawn(10, 5);
+        t.spawn(20, 0);
+        t.spawn(20, 2);
+        t.run(40);
+        Check.statesDue("all wait", t, 3, 8, 3, 3);
+        t.put(1, 4);
+        t.run(3);
+        int[] faults = {8, 1, 8, 8};
+        for (int i = 0; i < faults.length; i++) {
+            Check.faultDue("TASK " + i, t, i, faults[i]);
+        }
+        Check.due("FAULTS", t.told(7), 4);
+        Check.due("IDLE", t.step(), 2);
     }
 
     /** A LINK goes one way, and an end that is no FAULT goes by none. */
